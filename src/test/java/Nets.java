@@ -1,0 +1,55 @@
+/** Nets that several tests begin with. */
+final class Nets {
+    static final int[] WRONG_PREFIXES = {-1, 4, 5, Integer.MIN_VALUE, Integer.MAX_VALUE};
+
+    private Nets() {
+    }
+
+    /** Routers that there are not in a net of so many, NONE not among them. */
+    static int[] wrongRouters(int size) {
+        return new int[] {-2, size, size + 1, Integer.MIN_VALUE, Integer.MAX_VALUE};
+    }
+
+    /** Routers 0, 1, .. in a line, each link with cost 1. */
+    static LabelRoads line(int size) {
+        LabelRoads net = new LabelRoads(size);
+        for (int i = 0; i + 1 < size; i++) {
+            net.link(i, i + 1, 1);
+        }
+        return net;
+    }
+
+    /** All pairs of routers linked with cost 1. */
+    static LabelRoads full(int size) {
+        LabelRoads net = new LabelRoads(size);
+        for (int a = 0; a < size; a++) {
+            for (int b = a + 1; b < size; b++) {
+                net.link(a, b, 1);
+            }
+        }
+        return net;
+    }
+
+    /** Lets all messages come; a net that never comes to rest would be a fault. */
+    static void rest(LabelRoads net) {
+        for (int i = 0; i < 20 && net.waiting() > 0; i++) {
+            net.run(400);
+        }
+        Check.due("waiting() at rest", net.waiting(), 0);
+    }
+
+    /**
+     * Fills the mail of a full net of six at rest, in which each router has one label: routers 5, 4
+     * and 3 get and withdraw their seven other labels for prefix 1 (10 messages each), 2 three.
+     */
+    static void fill(LabelRoads net) {
+        for (int router = 5; router >= 2; router--) {
+            for (int i = 0; i < (router == 2 ? 3 : 7); i++) {
+                net.own(1, router);
+                net.own(1, LabelRoads.NONE);
+            }
+        }
+        Check.due("waiting() when full", net.waiting(), 240);
+        Check.due("lost() when just full", net.lost(), 0);
+    }
+}
