@@ -26,6 +26,8 @@ public final class LabelRoads {
     private static final int LABELS = 8;
     private static final int FIRST_SERVICE_LABEL = 32;
     private static final int UNLABELLED = 0;
+    private static final int LABEL_UNIT = 4096;
+    private static final int BOTTOM_MARK = 256;
 
     private static final int NO_MESSAGE = 0;
     private static final int MAP = 1;
@@ -664,7 +666,7 @@ public final class LabelRoads {
         }
 
         private int entryOf(int label, boolean bottom) {
-            return 4096 * label + (bottom ? 256 : 0) + ttl;
+            return LABEL_UNIT * label + (bottom ? BOTTOM_MARK : 0) + ttl;
         }
 
         private void note(int router, int entry) {
