@@ -1,8 +1,12 @@
+import java.util.List;
 import java.util.Random;
 
-/** Long runs of calls, the same ones each time, on LabelRoads and on PlainModel. */
+/**
+ * Runs of 512 calls, the same ones each time, on LabelRoads and on PlainModel: changes, questions
+ * and refused calls. No object gets more calls, since nothing is promised for those.
+ */
 public final class AgainstModelTest {
-    private static final int RUNS = 400;
+    private static final int RUNS = 3000;
     private static final int CALLS = 512;
 
     private final Random random;
@@ -11,6 +15,11 @@ public final class AgainstModelTest {
     private final int size;
     private final int messageShare;
     private final String name;
+    private int calls;
+
+    private static final int[] FATES = new int[5];
+    private static int refusedCalls = 0;
+    private static int withAllTaken = 0;
 
     private AgainstModelTest(int seed) {
         random = new Random(seed);
@@ -25,36 +34,49 @@ public final class AgainstModelTest {
 
     public static void main(String[] args) {
         int withLost = 0;
-        int withAllTaken = 0;
-        int[] fates = new int[5];
         for (int seed = 0; seed < RUNS; seed++) {
             AgainstModelTest test = new AgainstModelTest(seed);
-            boolean allTaken = false;
-            for (int call = 0; call < CALLS; call++) {
-                int fate = test.change(test.name + call);
-                if (fate >= 0) {
-                    fates[fate]++;
-                }
-                if (call % 8 == 0 || fate >= 0) {
-                    allTaken |= test.look(test.name + call);
-                }
-            }
+            test.goThrough();
             withLost += test.model.lost > 0 ? 1 : 0;
-            withAllTaken += allTaken ? 1 : 0;
         }
-        if (withLost < 10 || withAllTaken < 10) {
-            Check.fail("too few runs reach the limits: " + withLost + ", " + withAllTaken);
+        if (withLost < 100 || withAllTaken < 1000 || refusedCalls < 1000) {
+            Check.fail("too few reach the limits: " + withLost + " runs with lost messages, "
+                    + withAllTaken + " answers with all labels taken, " + refusedCalls + " refused");
         }
         for (int fate = 0; fate < 5; fate++) {
-            if (fates[fate] < 50) {
-                Check.fail("too few packets with fate " + fate + ": " + fates[fate]);
+            if (FATES[fate] < 500) {
+                Check.fail("too few packets with fate " + fate + ": " + FATES[fate]);
             }
         }
         Check.end();
     }
 
-    /** One call that may change something; the fate of a packet if it was send, else -1. */
-    private int change(String at) {
+    /** More changes at first; the questions at the end are those about what all of them led to. */
+    private void goThrough() {
+        while (calls < CALLS) {
+            if (random.nextInt(CALLS) < calls) {
+                ask();
+            } else if (random.nextInt(100) == 0) {
+                tryRefused();
+            } else {
+                change();
+            }
+        }
+    }
+
+    private void due(String call, int got, int want) {
+        Check.due(name + calls + " " + call, got, want);
+        calls++;
+    }
+
+    private void tryRefused() {
+        List<RefusedCalls.Refused> refused = RefusedCalls.of(size, model.places.size());
+        refused.get(random.nextInt(refused.size())).tryOn(net);
+        refusedCalls++;
+        calls++;
+    }
+
+    private void change() {
         int kind = random.nextInt(12 + messageShare);
         int a = random.nextInt(size);
         int b = (a + 1 + random.nextInt(size - 1)) % size;
@@ -62,56 +84,78 @@ public final class AgainstModelTest {
         int router = random.nextInt(4) == 0 ? -1 : a;
         if (kind < 3) {
             int cost = random.nextInt(5) == 0 ? 0 : 1 + random.nextInt(random.nextBoolean() ? 3 : 15);
-            Check.due(at + " link(" + a + ", " + b + ", " + cost + ")",
-                    net.link(a, b, cost), model.link(a, b, cost));
+            due("link(" + a + ", " + b + ", " + cost + ")", net.link(a, b, cost), model.link(a, b, cost));
         } else if (kind < 7) {
-            Check.due(at + " own(" + prefix + ", " + router + ")",
+            due("own(" + prefix + ", " + router + ")",
                     net.own(prefix, router), model.own(prefix, router));
         } else if (kind < 8) {
-            Check.due(at + " serve(" + prefix + ", " + router + ")",
+            due("serve(" + prefix + ", " + router + ")",
                     net.serve(prefix, router), model.serve(prefix, router));
         } else if (kind < 10) {
-            int service = random.nextInt(5) - 1;
-            int ttl = random.nextInt(3) == 0 ? 1 + random.nextInt(255) : 1 + random.nextInt(6);
-            int fate = model.send(a, prefix, service, ttl);
-            Check.due(at + " send(" + a + ", " + prefix + ", " + service + ", " + ttl + ")",
-                    net.send(a, prefix, service, ttl), fate);
-            return fate;
+            send(a, prefix);
         } else if (kind < 15) {
-            Check.due(at + " step(" + a + ", " + b + ")", net.step(a, b), model.step(a, b));
+            due("step(" + a + ", " + b + ")", net.step(a, b), model.step(a, b));
         } else {
             int n = random.nextInt(8) == 0 ? 400 : random.nextInt(6);
-            Check.due(at + " run(" + n + ")", net.run(n), model.run(n));
+            due("run(" + n + ")", net.run(n), model.run(n));
         }
-        return -1;
     }
 
-    /** Compares all that can be asked; whether a router has no label left. */
-    private boolean look(String at) {
-        boolean allTaken = false;
-        Check.due(at + " waiting()", net.waiting(), model.mail.size());
-        Check.due(at + " lost()", net.lost(), model.lost);
-        Check.due(at + " hops()", net.hops(), model.places.size());
-        for (int i = 0; i < Math.min(net.hops(), model.places.size()); i++) {
-            Check.due(at + " hop(" + i + ")", net.hop(i), model.places.get(i));
-            Check.due(at + " entry(" + i + ")", net.entry(i), model.tops.get(i));
+    private void send(int router, int prefix) {
+        int service = random.nextInt(5) - 1;
+        int ttl = random.nextInt(3) == 0 ? 1 + random.nextInt(255) : 1 + random.nextInt(6);
+        int fate = model.send(router, prefix, service, ttl);
+        due("send(" + router + ", " + prefix + ", " + service + ", " + ttl + ")",
+                net.send(router, prefix, service, ttl), fate);
+        FATES[fate]++;
+        if (random.nextInt(4) == 0) {
+            askForHops();
         }
-        for (int r = 0; r < size; r++) {
-            Check.due(at + " taken(" + r + ")", net.taken(r), model.taken(r));
-            allTaken |= model.taken(r) == 8;
-            for (int p = 0; p < 4; p++) {
-                String args = "(" + r + ", " + p + ")";
-                Check.due(at + " distance" + args, net.distance(r, p), model.distance(r, p));
-                Check.due(at + " next" + args, net.next(r, p), model.next(r, p));
-                Check.due(at + " label" + args, net.label(r, p), model.label(r, p));
-                for (int other = 0; other < size; other++) {
-                    if (other != r) {
-                        Check.due(at + " told(" + r + ", " + other + ", " + p + ")",
-                                net.told(r, other, p), model.told(r, other, p));
-                    }
-                }
-            }
+    }
+
+    private void askForHops() {
+        if (calls + 1 + 2 * model.places.size() > CALLS) {
+            return;
         }
-        return allTaken;
+        due("hops()", net.hops(), model.places.size());
+        for (int i = 0; i < model.places.size(); i++) {
+            due("hop(" + i + ")", net.hop(i), model.places.get(i));
+            due("entry(" + i + ")", net.entry(i), model.tops.get(i));
+        }
+    }
+
+    private void ask() {
+        int r = random.nextInt(size);
+        int other = (r + 1 + random.nextInt(size - 1)) % size;
+        int p = random.nextInt(4);
+        String args = "(" + r + ", " + p + ")";
+        switch (random.nextInt(8)) {
+            case 0:
+                due("waiting()", net.waiting(), model.mail.size());
+                break;
+            case 1:
+                due("lost()", net.lost(), model.lost);
+                break;
+            case 2:
+                askForHops();
+                break;
+            case 3:
+                due("distance" + args, net.distance(r, p), model.distance(r, p));
+                break;
+            case 4:
+                due("next" + args, net.next(r, p), model.next(r, p));
+                break;
+            case 5:
+                due("label" + args, net.label(r, p), model.label(r, p));
+                break;
+            case 6:
+                due("told(" + r + ", " + other + ", " + p + ")",
+                        net.told(r, other, p), model.told(r, other, p));
+                break;
+            default:
+                due("taken(" + r + ")", net.taken(r), model.taken(r));
+                withAllTaken += model.taken(r) == 8 ? 1 : 0;
+                break;
+        }
     }
 }

@@ -22,12 +22,35 @@ final class Nets {
     /** All pairs of routers linked with cost 1. */
     static LabelRoads full(int size) {
         LabelRoads net = new LabelRoads(size);
+        linkAll(net, size);
+        return net;
+    }
+
+    static void linkAll(LabelRoads net, int size) {
         for (int a = 0; a < size; a++) {
             for (int b = a + 1; b < size; b++) {
                 net.link(a, b, 1);
             }
         }
-        return net;
+    }
+
+    /** A router gets a label for a prefix and withdraws it, so many times, without a message coming. */
+    static void useUpLabels(LabelRoads net, int router, int prefix, int times) {
+        for (int i = 0; i < times; i++) {
+            net.own(prefix, router);
+            net.own(prefix, LabelRoads.NONE);
+        }
+    }
+
+    /** 240 messages on their way in a full net of five, none of them from router 0: 75 calls. */
+    static void crowdFive(LabelRoads net) {
+        linkAll(net, 5);
+        useUpLabels(net, 4, 1, 8);
+        useUpLabels(net, 3, 1, 8);
+        useUpLabels(net, 2, 1, 8);
+        useUpLabels(net, 1, 1, 6);
+        Check.due("waiting() when full", net.waiting(), 240);
+        Check.due("lost() when just full", net.lost(), 0);
     }
 
     /** Lets all messages come; a net that never comes to rest would be a fault. */
@@ -44,10 +67,7 @@ final class Nets {
      */
     static void fill(LabelRoads net) {
         for (int router = 5; router >= 2; router--) {
-            for (int i = 0; i < (router == 2 ? 3 : 7); i++) {
-                net.own(1, router);
-                net.own(1, LabelRoads.NONE);
-            }
+            useUpLabels(net, router, 1, router == 2 ? 3 : 7);
         }
         Check.due("waiting() when full", net.waiting(), 240);
         Check.due("lost() when just full", net.lost(), 0);
