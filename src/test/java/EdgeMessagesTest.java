@@ -85,8 +85,8 @@ public final class EdgeMessagesTest {
     }
 
     /**
-     * Router 1 turned from 0 to 3, which told nothing, and withdrew its label; its WITHDRAW comes to
-     * 2 with 240 on their way: the RELEASE has its place, and 2's own WITHDRAWs are lost.
+     * Router 1 has withdrawn its label; its WITHDRAW comes to 2 with 240 on their way: the RELEASE
+     * has its place, and 2's own WITHDRAWs are lost.
      */
     private static void theReleaseHasThePlaceOfItsWithdraw() {
         LabelRoads net = new LabelRoads(6);
@@ -96,14 +96,7 @@ public final class EdgeMessagesTest {
                 net.link(4, other, 15);
             }
         }
-        net.link(0, 1, 1);
-        net.link(1, 2, 1);
-        net.link(1, 3, 1);
-        net.link(3, 0, 1);
-        net.own(0, 0);
-        net.step(0, 1);
-        net.step(1, 2);
-        net.link(0, 1, 9);
+        Nets.turnAway(net);
         counts(net, 15, 0);
         Nets.useUpLabels(net, 5, 1, 8);
         Nets.useUpLabels(net, 4, 1, 8);

@@ -42,6 +42,21 @@ final class Nets {
         }
     }
 
+    /**
+     * Router 1 turns from 0, the owner of prefix 0, to 3, which has told nothing, and withdraws its
+     * label 16; router 2, which was told that label, does not know it yet.
+     */
+    static void turnAway(LabelRoads net) {
+        net.link(0, 1, 1);
+        net.link(1, 2, 1);
+        net.link(1, 3, 1);
+        net.link(3, 0, 1);
+        net.own(0, 0);
+        net.step(0, 1);
+        net.step(1, 2);
+        net.link(0, 1, 9);
+    }
+
     /** 240 messages on their way in a full net of five, none of them from router 0: 75 calls. */
     static void crowdFive(LabelRoads net) {
         linkAll(net, 5);

@@ -4,11 +4,13 @@ public final class Promise02LinkTest {
         tellsWhatItWas();
         mapsGoFromTheLowerRouterFirst();
         mapsGoByRisingPrefixes();
+        mapsGoBeforeWhatSettlingSends();
         sameCostDoesNothing();
         costAloneSettlesAndKeepsMessages();
         goneLinkTakesAllWithIt();
         otherLinksKeepTheirs();
         goneLinkFreesLabels();
+        settlesByRoutersThenByPrefixes();
         wrongNumbers();
         Check.end();
     }
@@ -54,6 +56,28 @@ public final class Promise02LinkTest {
         net.step(0, 1);
         Check.due("told(1, 0, 3)", net.told(1, 0, 3), 16);
         Check.due("told(1, 0, 0)", net.told(1, 0, 0), 0);
+    }
+
+    /** The new link makes 2 the next router of 1, which then withdraws the label that it just told. */
+    private static void mapsGoBeforeWhatSettlingSends() {
+        LabelRoads net = new LabelRoads(3);
+        net.link(0, 1, 15);
+        net.link(0, 2, 1);
+        net.own(0, 0);
+        Nets.rest(net);
+        net.link(2, 1, 1);
+        Check.due("next(1, 0)", net.next(1, 0), 2);
+        Check.due("label(1, 0)", net.label(1, 0), 0);
+        Check.due("waiting(), two MAPs and two WITHDRAWs", net.waiting(), 4);
+        net.run(1);
+        Check.due("told(2, 1, 0)", net.told(2, 1, 0), 16);
+        net.run(1);
+        Check.due("told(1, 2, 0)", net.told(1, 2, 0), 16);
+        Check.due("told(0, 1, 0)", net.told(0, 1, 0), 16);
+        net.run(1);
+        Check.due("told(0, 1, 0)", net.told(0, 1, 0), 0);
+        Check.due("step(1, 2), WITHDRAW", net.step(1, 2), 2);
+        Check.due("told(2, 1, 0)", net.told(2, 1, 0), 0);
     }
 
     private static void sameCostDoesNothing() {
@@ -138,6 +162,23 @@ public final class Promise02LinkTest {
         Check.due("taken(0), none to come", net.taken(0), 1);
         net.own(2, 0);
         Check.due("label(0, 2)", net.label(0, 2), 16);
+    }
+
+    /** Without a way to 2 both others withdraw two labels each: first 0 both of its own, then 1. */
+    private static void settlesByRoutersThenByPrefixes() {
+        LabelRoads net = Nets.line(3);
+        net.own(1, 2);
+        net.own(3, 2);
+        Nets.rest(net);
+        net.link(1, 2, 0);
+        Check.due("waiting()", net.waiting(), 4);
+        for (int i = 0; i < 4; i++) {
+            int from = i / 2;
+            int prefix = i % 2 == 0 ? 1 : 3;
+            Check.due("told before", net.told(1 - from, from, prefix), prefix == 1 ? 16 : 17);
+            Check.due("run(1)", net.run(1), 1);
+            Check.due("told", net.told(1 - from, from, prefix), 0);
+        }
     }
 
     private static void wrongNumbers() {

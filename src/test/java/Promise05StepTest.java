@@ -3,6 +3,7 @@ public final class Promise05StepTest {
     public static void main(String[] args) {
         allThreeKinds();
         firstOfItsDirectionComes();
+        mapTakesThePlaceOfTheToldOne();
         releaseIsSentBeforeSettling();
         withdrawOfAnotherLabelLeavesTheToldOne();
         releaseSettlesAllPrefixes();
@@ -52,21 +53,28 @@ public final class Promise05StepTest {
         Check.due("step(0, 2)", net.step(0, 2), 0);
     }
 
+    /** WITHDRAW of 16 is lost, so that router 1 still has 16 as told when MAP of 17 comes to it. */
+    private static void mapTakesThePlaceOfTheToldOne() {
+        LabelRoads net = Nets.full(6);
+        net.own(0, 0);
+        Nets.rest(net);
+        Nets.fill(net);
+        net.own(0, LabelRoads.NONE);
+        Check.due("step(3, 5), for room", net.step(3, 5), 1);
+        net.own(0, 0);
+        Check.due("told(1, 0, 0)", net.told(1, 0, 0), 16);
+        Check.due("step(0, 1), MAP", net.step(0, 1), 1);
+        Check.due("told(1, 0, 0)", net.told(1, 0, 0), 17);
+        Check.due("step(0, 1), none", net.step(0, 1), 0);
+    }
+
     /**
-     * Router 1 turns from 0 to 3, which has told nothing, and withdraws; 2 loses its label only when
-     * that comes to it, and answers with RELEASE before it sends its own WITHDRAW.
+     * Router 1 has withdrawn its label; 2 loses its own only when that comes to it, and answers with
+     * RELEASE before it sends its own WITHDRAW.
      */
     private static void releaseIsSentBeforeSettling() {
         LabelRoads net = new LabelRoads(4);
-        net.link(0, 1, 1);
-        net.link(1, 2, 1);
-        net.link(1, 3, 1);
-        net.link(3, 0, 1);
-        net.own(0, 0);
-        net.step(0, 1);
-        net.step(1, 2);
-        Check.due("label(2, 0)", net.label(2, 0), 16);
-        net.link(0, 1, 9);
+        Nets.turnAway(net);
         Check.due("label(1, 0)", net.label(1, 0), 0);
         Check.due("label(2, 0)", net.label(2, 0), 16);
         Check.due("step(1, 2), WITHDRAW", net.step(1, 2), 2);
@@ -99,10 +107,7 @@ public final class Promise05StepTest {
     /** With all labels taken two prefixes wait; the first RELEASE gives a label to the lower one. */
     private static void releaseSettlesAllPrefixes() {
         LabelRoads net = Nets.line(2);
-        for (int i = 0; i < 8; i++) {
-            net.own(0, 0);
-            net.own(0, LabelRoads.NONE);
-        }
+        Nets.useUpLabels(net, 0, 0, 8);
         Check.due("taken(0)", net.taken(0), 8);
         net.own(3, 0);
         net.own(2, 0);

@@ -8,6 +8,7 @@ public final class Promise14SendTest {
         withSomeLabels();
         atTheOwner();
         staleLabels();
+        staleLabelAtTheOwner();
         timeToLive();
         orderOfDrops();
         services();
@@ -69,17 +70,9 @@ public final class Promise14SendTest {
         Check.due("hops()", net.hops(), 1);
     }
 
-    /** Router 1 turned to 3, which has told nothing, and withdrew; 2 does not know it yet. */
     private static void staleLabels() {
         LabelRoads net = new LabelRoads(4);
-        net.link(0, 1, 1);
-        net.link(1, 2, 1);
-        net.link(1, 3, 1);
-        net.link(3, 0, 1);
-        net.own(0, 0);
-        net.step(0, 1);
-        net.step(1, 2);
-        net.link(0, 1, 9);
+        Nets.turnAway(net);
         Check.due("send, 1 has the label no more", net.send(2, 0, NONE, 9), LabelRoads.UNKNOWN);
         Check.due("hops()", net.hops(), 2);
         Check.due("hop(1)", net.hop(1), 1);
@@ -88,6 +81,26 @@ public final class Promise14SendTest {
         Check.due("send, without labels", net.send(2, 0, NONE, 9), LabelRoads.DELIVERED);
         Check.due("hops()", net.hops(), 4);
         Check.due("send for a service", net.send(2, 0, 0, 9), LabelRoads.NO_LABEL);
+    }
+
+    /** The owner has 17 in place of 16: a packet with 16 is none that it knows, though for it. */
+    private static void staleLabelAtTheOwner() {
+        LabelRoads net = Nets.line(2);
+        net.own(0, 1);
+        net.serve(0, 1);
+        net.step(1, 0);
+        net.own(0, NONE);
+        net.own(0, 1);
+        Check.due("label(1, 0)", net.label(1, 0), 17);
+        Check.due("send with 16", net.send(0, 0, NONE, 9), LabelRoads.UNKNOWN);
+        Check.due("entry(1)", net.entry(1), 4096 * 16 + 256 + 8);
+        Check.due("send for a service with 16", net.send(0, 0, 0, 9), LabelRoads.UNKNOWN);
+        Check.due("entry(1)", net.entry(1), 4096 * 16 + 8);
+        Check.due("step(1, 0), WITHDRAW", net.step(1, 0), 2);
+        Check.due("send without a label", net.send(0, 0, NONE, 9), LabelRoads.DELIVERED);
+        Check.due("step(1, 0), MAP", net.step(1, 0), 1);
+        Check.due("send with 17", net.send(0, 0, NONE, 9), LabelRoads.DELIVERED);
+        Check.due("send for a service with 17", net.send(0, 0, 0, 9), LabelRoads.DELIVERED);
     }
 
     private static void timeToLive() {
